@@ -449,9 +449,12 @@ public final class ChangingRounds {
         /** The nodes of a set and all their neighbours. */
         static int spread(int edges, int nodeSet, int nodes) {
             int reached = nodeSet;
-            for (int node = 0; node < nodes; node++) {
-                if (NodeSet.has(nodeSet, node)) {
-                    reached |= neighbours(edges, node, nodes);
+            for (int b = 1; b < nodes; b++) {
+                for (int a = 0; a < b; a++) {
+                    if (connects(edges, a, b)) {
+                        reached |= NodeSet.has(nodeSet, a) ? NodeSet.of(b) : 0;
+                        reached |= NodeSet.has(nodeSet, b) ? NodeSet.of(a) : 0;
+                    }
                 }
             }
             return reached;
@@ -459,9 +462,11 @@ public final class ChangingRounds {
 
         /** All nodes that can be reached from a node. */
         static int component(int edges, int node, int nodes) {
+            int before = 0;
             int reached = NodeSet.of(node);
             // No way is longer than all nodes but one.
-            for (int length = 1; length < nodes; length++) {
+            for (int length = 1; length < nodes && reached != before; length++) {
+                before = reached;
                 reached = spread(edges, reached, nodes);
             }
             return reached;

@@ -88,6 +88,7 @@ public final class FloodingTest {
         check.due("path of 5", check.loaded("nodes 5;path;").center(), 2);
         check.due("path of 4", check.loaded("nodes 4;path;").center(), 1);
         check.due("star 3", check.loaded("star 3;").center(), 3);
+        check.due("star 7", check.loaded("nodes 8;star 7;").center(), 7);
         check.due("full", check.loaded("full;").center(), 0);
         check.due("apart", check.loaded("01 23;").center(), Check.NONE);
         // All hear of 0 after 3 steps, of 3 only when the schedule has begun anew.

@@ -15,6 +15,9 @@ public final class GossipTest {
         countingApart();
         alarmsSpread();
         alarmsGoOneHopAStep();
+        alarmsEndWithThePhase();
+        nodeZeroIsLast();
+        countingBeginsAnew();
         countingErrors();
         check.end();
     }
@@ -69,6 +72,9 @@ public final class GossipTest {
         ChangingRounds x = check.loaded("nodes 4;13;01;12;");
         known(x, 1, 2, 9, 11, 4, 10);
         known(x, 1, 3, 9, 15, 5, 10);
+        // Node 0 learns all others at once and sends 7.
+        ChangingRounds star = check.loaded("nodes 8;star 0;");
+        known(star, 1, 2, 255, 131, 133, 137, 145, 161, 193, 129);
     }
 
     private static void gossipErrors() {
@@ -136,6 +142,29 @@ public final class GossipTest {
     private static void alarmsGoOneHopAStep() {
         // In the first phase the alarm of 1 reaches 2 but not 3, which decides for 1.
         counts(check.loaded("nodes 4;01;path;"), 14, 2, 3, 4, 4, 1);
+    }
+
+    private static void alarmsEndWithThePhase() {
+        // The edge 12 comes a step too late for the alarm of 1 in the first phase.
+        counts(check.loaded("nodes 3;01;none;12;"), 14, 1, 3, 3, 1);
+    }
+
+    private static void nodeZeroIsLast() {
+        // In the second phase node 0 alone knows more than 2 tokens, and no alarm spreads.
+        counts(check.loaded("nodes 3;full;none;repeat 1;star 0;none;repeat 1;"), 14, 2, 3, 2, 2);
+    }
+
+    private static void countingBeginsAnew() {
+        ChangingRounds x = check.loaded("nodes 3;full;");
+        check.due("countingSteps of full", x.countingSteps(), 14);
+        check.due("wrongCounts of full", x.wrongCounts(), 0);
+        x.removeRound(0);
+        check.due("countingSteps without rounds", x.countingSteps(), 2);
+        x.undo();
+        check.due("wrongCounts of full again", x.wrongCounts(), 0);
+        x.removeRound(0);
+        check.due("wrongCounts without rounds", x.wrongCounts(), 3);
+        check.due("counted(0) without rounds", x.counted(0), 1);
     }
 
     private static void countingErrors() {

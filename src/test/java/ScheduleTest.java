@@ -48,6 +48,7 @@ public final class ScheduleTest {
         }
         check.due("rounds after wrong setNodes", x.count(1), 2);
         check.due("saved after wrong setNodes", x.count(5), 1);
+        x.setValue(0, 60);
         x.setValue(1, 50);
         check.due("setNodes(8)", x.setNodes(8), 5);
         check.due("nodes", x.count(0), 8);
@@ -58,7 +59,7 @@ public final class ScheduleTest {
         check.due("setNodes(2)", x.setNodes(2), 8);
         check.due("value(2) of 2 nodes", x.value(2), Check.INVALID);
         check.due("setNodes(2) again", x.setNodes(2), 2);
-        check.due("saved", x.count(5), 5);
+        check.due("saved", x.count(5), 6);
     }
 
     private static void addRound() {
@@ -226,6 +227,10 @@ public final class ScheduleTest {
         check.due("2 4", x.edge(1, 2, 4), 1);
         ChangingRounds all = check.loaded("nodes 5;full;");
         check.due("cliques with all informed", all.addAdversary(2, 4), 10);
+        ChangingRounds last = check.loaded("nodes 8;");
+        check.due("cliques against 7", last.addAdversary(2, 7), 22);
+        check.due("7 0", last.edge(0, 7, 0), 1);
+        check.due("7 6", last.edge(0, 7, 6), 0);
         ChangingRounds empty = new ChangingRounds();
         check.due("cliques without rounds", empty.addAdversary(2, 3), 4);
         check.due("3 0 without rounds", empty.edge(0, 3, 0), 1);

@@ -144,6 +144,12 @@ public final class TextTest {
         bad("path;repeat 1 1;", 14);
         bad("full; x", 6);
         bad("a;", 0);
+        bad("bath;", 0);
+        bad("patha;", 0);
+        bad("pathz;", 0);
+        bad("zpath;", 0);
+        bad("nodez 4;", 0);
+        bad("odes 4;", 0);
     }
 
     private static void numberErrors() {

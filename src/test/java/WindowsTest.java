@@ -38,6 +38,9 @@ public final class WindowsTest {
         // A way that goes down and up through the numbers of the nodes.
         ChangingRounds winding = check.loaded("nodes 8;07 71 16 62 25 53 34;");
         properties(winding, 0, 7, 1, 1, 2);
+        ChangingRounds stars = check.loaded("nodes 8;star 0;star 7;");
+        properties(stars, 0, 7, 1, 1, 7);
+        properties(stars, 1, 7, 1, 1, 7);
         ChangingRounds two = check.loaded("nodes 2;none;path;");
         properties(two, 0, 0, 0, 2, 0);
         properties(two, 1, 1, 1, 1, 1);
@@ -81,6 +84,7 @@ public final class WindowsTest {
         x.addRound();
         check.due("isStable(1) with an empty round", x.isStable(1), 0);
         check.due("greatestStable with an empty round", x.greatestStable(), 0);
+        check.due("greatestStable is 1", check.loaded("path;star 0;").greatestStable(), 1);
         ChangingRounds empty = new ChangingRounds();
         check.due("isStable(1) without rounds", empty.isStable(1), Check.INVALID);
         check.due("isStable(0) without rounds", empty.isStable(0), Check.INVALID);
