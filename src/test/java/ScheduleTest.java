@@ -7,7 +7,9 @@ public final class ScheduleTest {
         newObject();
         setNodes();
         addRound();
+        addRoundOverOldEdges();
         setEdge();
+        allEdgesOfEight();
         removeRound();
         swapRounds();
         adversaryPath();
@@ -85,7 +87,6 @@ public final class ScheduleTest {
     }
 
     private static void setEdge() {
-        addRoundOverOldEdges();
         ChangingRounds x = new ChangingRounds();
         check.due("setEdge without rounds", x.setEdge(0, 0, 1, 1), Check.INVALID);
         x.addRound();
@@ -115,7 +116,6 @@ public final class ScheduleTest {
             check.due("far on", x.setEdge(0, 0, 2, far), Check.INVALID);
         }
         check.due("edges", x.count(2), 2);
-        allEdgesOfEight();
     }
 
     private static void allEdgesOfEight() {
@@ -181,12 +181,12 @@ public final class ScheduleTest {
         check.due("3 4", x.edge(2, 3, 4), 1);
         check.due("4 1", x.edge(2, 4, 1), 1);
         check.due("1 2", x.edge(2, 1, 2), 1);
-        // In order of the rounds 0 hears of 1 in none of them, and 1 of 0 in none.
         ChangingRounds all = check.loaded("nodes 3;full;");
         check.due("path with all informed", all.addAdversary(0, 2), 2);
         check.due("all 0 1", all.edge(1, 0, 1), 1);
         check.due("all 1 2", all.edge(1, 1, 2), 1);
-        // The order of the steps counts: 12 before 01 does not bring the token of 0 to 2.
+        // The order of the steps counts: 12 before 01 does not bring the token of 0 to 2,
+        // so informed are 0 and 1.
         ChangingRounds late = check.loaded("nodes 4;12;01;");
         check.due("late path", late.addAdversary(0, 0), 3);
         check.due("late 0 1", late.edge(2, 0, 1), 1);

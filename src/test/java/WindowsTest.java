@@ -106,9 +106,8 @@ public final class WindowsTest {
 
     private static void window() {
         ChangingRounds x = check.loaded("path;ring;full;star 0;none;full;");
-        int[] due = {3, 3, 2, 1, 0, 1};
         // From round 1 on ring, full and star share 01 and 03 only.
-        due[1] = 2;
+        int[] due = {3, 2, 2, 1, 0, 1};
         for (int round = 0; round < due.length; round++) {
             check.due("window(" + round + ")", x.window(round), due[round]);
         }
