@@ -68,6 +68,13 @@ final class Check {
         nothingOutside(call, low, high, answer);
     }
 
+    /** A range with the answers that are due at both ends of it. */
+    void ends(String call, int low, int dueLow, int high, int dueHigh, IntUnaryOperator answer) {
+        due(call + " with " + low, answer.applyAsInt(low), dueLow);
+        due(call + " with " + high, answer.applyAsInt(high), dueHigh);
+        nothingOutside(call, low, high, answer);
+    }
+
     /** There is no allowed argument at all. */
     void emptyRange(String call, IntUnaryOperator answer) {
         nothingOutside(call, 0, -1, answer);

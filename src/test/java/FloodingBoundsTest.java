@@ -220,6 +220,7 @@ public final class FloodingBoundsTest {
         check.range("from", 0, 99, from -> check.loaded("path;").diameter(from));
         check.range("from, never", 0, 99, from -> check.loaded("none;").diameter(from));
         check.range("from, without rounds", 0, 99, from -> new ChangingRounds().diameter(from));
+        check.says("Returns the greatest journey of all pairs of nodes.");
         check.due("2 nodes", check.loaded("nodes 2;01;").diameter(0), 1);
         check.due("2 nodes, late", check.loaded(only(15, "nodes 2;", "01")).diameter(0), 16);
         check.due("2 nodes, at once", check.loaded(only(15, "nodes 2;", "01")).diameter(15), 1);
@@ -243,6 +244,8 @@ public final class FloodingBoundsTest {
         check.due("ring", check.loaded("nodes 8;ring;").center(), 0);
         check.due("two middle ones", check.loaded("nodes 8;path;").center(), 3);
         check.due("the last", check.loaded("nodes 8;star 7;").center(), 7);
+        check.says("Finds the node of which all others hear soonest in the flooding that begins "
+                + "with step 0, that is, the greatest journey from it is smallest.");
         // All hear of 2 and of 3 after three steps, of 0 and 1 later.
         check.due("the smaller of 2 and 3", check.loaded("23;12;01;").center(), 2);
         // It begins with step 0: the star of node 3 comes first.
@@ -288,7 +291,8 @@ public final class FloodingBoundsTest {
     }
 
     private static void agreementSteps() {
-        check.says("Returns the smallest such number of steps; NONE if there is none.");
+        check.says("Returns after how many steps all nodes decide for the same value. "
+                + "Returns the smallest such number of steps; NONE if there is none.");
         ChangingRounds x = check.loaded("nodes 2;01;");
         check.due("2 nodes", x.agreement(), 1);
         x.setValue(0, 1);

@@ -16,6 +16,7 @@ public final class GossipBoundsTest {
         gossipErrors();
         gossipLastStep();
         gossipTimeErrors();
+        gossipTimeOfTheLastNode();
         gossipTimeBound();
         guesses();
         moreThanTheGuess();
@@ -183,6 +184,13 @@ public final class GossipBoundsTest {
         for (int rule = 0; rule <= 2; rule++) {
             check.due("never", check.loaded("none;").gossipTime(rule), Check.NONE);
         }
+    }
+
+    private static void gossipTimeOfTheLastNode() {
+        check.says("Returns after how many steps of gossip all nodes know all tokens.");
+        check.due("node 0 is last", check.loaded("nodes 3;path;").gossipTime(0), 3);
+        check.due("node 2 is last", check.loaded("nodes 3;path;").gossipTime(2), 4);
+        check.due("node 2 never", check.loaded("nodes 3;path;").gossipTime(1), Check.NONE);
     }
 
     private static void gossipTimeBound() {

@@ -130,6 +130,9 @@ public final class TextBoundsTest {
         bad("none;;", 5);
         bad(";none;", 0);
         bad("none none;", 5);
+        // A full schedule takes no empty item either.
+        bad(SIXTEEN + ";", SIXTEEN.length());
+        good(SIXTEEN + "   ", 16, 4, 48);
     }
 
     private static void nodesItem() {
@@ -251,6 +254,10 @@ public final class TextBoundsTest {
         bad("nonez;", 0);
         bad("anone;", 0);
         bad("znone;", 0);
+        for (String other : new String[] {"mone", "nona", "gull", "fulk", "bath", "patg", "sing",
+            "rink", "ttar 1", "staq 1", "modes 4", "nodet 4", "full;sepeat 1", "full;repeas 1"}) {
+            bad(other + ";", other.startsWith("full;") ? 5 : 0);
+        }
         bad("0112;", 0);
         bad("011;", 0);
         bad("01 1223;", 3);

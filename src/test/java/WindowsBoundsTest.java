@@ -38,6 +38,7 @@ public final class WindowsBoundsTest {
         properties("nodes 8;full;", 28, 1, 1, 7);
         properties("nodes 8;06;", 1, 0, 7, 1);
         properties("nodes 8;67;", 1, 0, 7, 1);
+        properties("nodes 8;01 02 12 03;", 4, 0, 5, 3);
         properties("nodes 8;star 0;", 7, 1, 1, 7);
         properties("nodes 8;star 7;", 7, 1, 1, 7);
         properties("nodes 8;01 23 45 67;", 4, 0, 4, 1);
