@@ -616,7 +616,7 @@ public final class ChangingRounds {
         }
 
         int edgesAtStep(int step) {
-            return rounds > 0 ? edgesOf(step % rounds) : 0;
+            return rounds > 0 && step >= 0 ? roundEdges[step % rounds] : 0;
         }
 
         // A token that reaches no new node in a whole turn of the schedule never
